@@ -1,5 +1,4 @@
 import java.util.Arrays;
-import java.util.NoSuchElementException;
 
 /**
  * Swims over a strait: the tide, swimmers and ships, strokes and relays, and the days of a neap.
@@ -154,7 +153,7 @@ public final class StraitSwim {
         if (swimmerCount >= SWIMMERS) {
             return FULL;
         }
-        swimmers[swimmerCount] = ofKind(kind, speed, limit);
+        swimmers[swimmerCount] = ofKind(kind, swimmerCount, speed, limit);
         swimmerCount++;
         return swimmerCount - 1;
     }
@@ -186,7 +185,7 @@ public final class StraitSwim {
         if (strait.isDry(x, y)) {
             return NONE;
         }
-        latest.ready(swimmer, who, chill);
+        latest.ready(who, chill);
         return latest.cross(strait, x, y, quarter, aim);
     }
 
@@ -212,7 +211,7 @@ public final class StraitSwim {
     }
 
     public int where(int t) {
-        if (t < 0) {
+        if (!isWithin(t, 0, SWIM_MOST)) {
             return NO_SUCH;
         }
         if (!latest.hasBeen() || t > latest.quarters) {
@@ -229,7 +228,7 @@ public final class StraitSwim {
         if (strait.isDry(x, y)) {
             return NONE;
         }
-        trial.ready(swimmer, who, chill);
+        trial.ready(who, chill);
         int fewest = SWIM_MOST + 1;
         int start = NONE;
         for (int quarter = 0; quarter < QUARTERS_OF_DAY; quarter++) {
@@ -252,7 +251,7 @@ public final class StraitSwim {
         if (strait.isDry(x, y)) {
             return NONE;
         }
-        trial.ready(swimmer, who, chill);
+        trial.ready(who, chill);
         int found = 0;
         for (int quarter = 0; quarter < QUARTERS_OF_DAY; quarter++) {
             for (int aim = 0; aim < AIMS; aim++) {
@@ -535,21 +534,21 @@ public final class StraitSwim {
         return y / BAND_HEIGHT * HOURS + quarter / QUARTERS_OF_HOUR % HOURS;
     }
 
-    private static Plain ofKind(int kind, int speed, int limit) {
+    private static Plain ofKind(int kind, int number, int speed, int limit) {
         switch (kind) {
             case GREASED:
-                return new Greased(speed, limit);
+                return new Greased(number, speed, limit);
             case QUICK:
-                return new Quick(speed, limit);
+                return new Quick(number, speed, limit);
             case SEASONED:
-                return new Seasoned(speed, limit);
+                return new Seasoned(number, speed, limit);
             default:
-                return new Plain(speed, limit);
+                return new Plain(number, speed, limit);
         }
     }
 
     private static Plain twinOf(Plain who) {
-        Plain twin = ofKind(who.kind(), who.speed, who.limit);
+        Plain twin = ofKind(who.kind(), who.number, who.speed, who.limit);
         twin.feed = who.feed;
         return twin;
     }
@@ -558,11 +557,7 @@ public final class StraitSwim {
         try {
             who.fail();
         } catch (IllegalStateException e) {
-            return GREASED;
-        } catch (UnsupportedOperationException e) {
-            return QUICK;
-        } catch (NoSuchElementException e) {
-            return SEASONED;
+            return who.number;
         }
         return NO_FAILURE;
     }
@@ -637,11 +632,13 @@ public final class StraitSwim {
 
     /** A SWIMMER of KIND PLAIN, from which the other KINDS differ. */
     private static class Plain implements Held {
+        final int number;
         final int speed;
         final int limit;
         int feed = 0;
 
-        Plain(int speed, int limit) {
+        Plain(int number, int speed, int limit) {
+            this.number = number;
             this.speed = speed;
             this.limit = limit;
         }
@@ -670,14 +667,14 @@ public final class StraitSwim {
             return 10 + speed + feed;
         }
 
-        /** Throws the FAILURE of its KIND; PLAIN ones have none. */
+        /** Throws its FAILURE; PLAIN ones have none. */
         void fail() {
         }
     }
 
     private static class Greased extends Plain {
-        Greased(int speed, int limit) {
-            super(speed, limit);
+        Greased(int number, int speed, int limit) {
+            super(number, speed, limit);
         }
 
         int kind() {
@@ -698,8 +695,8 @@ public final class StraitSwim {
     }
 
     private static final class Quick extends Plain {
-        Quick(int speed, int limit) {
-            super(speed, limit);
+        Quick(int number, int speed, int limit) {
+            super(number, speed, limit);
         }
 
         int kind() {
@@ -715,13 +712,13 @@ public final class StraitSwim {
         }
 
         void fail() {
-            throw new UnsupportedOperationException("too quick at first");
+            throw new IllegalStateException("too quick at first");
         }
     }
 
     private static final class Seasoned extends Greased {
-        Seasoned(int speed, int limit) {
-            super(speed, limit);
+        Seasoned(int number, int speed, int limit) {
+            super(number, speed, limit);
         }
 
         int kind() {
@@ -734,10 +731,6 @@ public final class StraitSwim {
 
         int heft() {
             return 2 * super.heft();
-        }
-
-        void fail() {
-            throw new NoSuchElementException("the season is over");
         }
     }
 
@@ -792,8 +785,8 @@ public final class StraitSwim {
         }
 
         /** Makes ready for swims of one SWIMMER: how far it gets if it neither lands nor drifts. */
-        void ready(int swimmer, Plain who, int chill) {
-            number = swimmer;
+        void ready(Plain who, int chill) {
+            number = who.number;
             reach = 0;
             tooCold = false;
             for (int t = 0; t < SWIM_MOST && !tooCold; t++) {

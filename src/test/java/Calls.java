@@ -31,7 +31,7 @@ final class Calls {
         RANGES.put("pace", new int[] {0, 4, 0, 99, 0, 1});
         RANGES.put("swim", new int[] {0, 4, 0, 239, 0, 119, 0, 47, 0, 7});
         RANGES.put("ended", new int[] {0, 4});
-        RANGES.put("where", new int[] {0, 30});
+        RANGES.put("where", new int[] {0, 100});
         RANGES.put("best", new int[] {0, 4, 0, 239, 0, 119});
         RANGES.put("ends", new int[] {0, 4, 0, 239, 0, 119, 0, 3});
         RANGES.put("ship", new int[] {0, 239, 0, 119, -20, 20, -20, 20});

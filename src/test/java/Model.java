@@ -14,6 +14,7 @@ public final class Model {
     }
 
     private static final class Person {
+        int number;
         int kind;
         int speed;
         int limit;
@@ -22,6 +23,7 @@ public final class Model {
 
         Person copy() {
             Person p = new Person();
+            p.number = number;
             p.kind = kind;
             p.speed = speed;
             p.limit = limit;
@@ -139,6 +141,7 @@ public final class Model {
             return -2;
         }
         Person p = new Person();
+        p.number = people.size();
         p.kind = kind;
         p.speed = speed;
         p.limit = limit;
@@ -256,7 +259,7 @@ public final class Model {
     }
 
     public int where(int t) {
-        if (t < 0) {
+        if (out(t, 0, 100)) {
             return -1;
         }
         if (latest == null || t >= latest.places.size()) {
@@ -609,6 +612,6 @@ public final class Model {
         if (!(shelves.get(d) instanceof Person p)) {
             return -12;
         }
-        return p.kind == 0 ? -15 : p.kind;
+        return p.kind == 0 ? -15 : p.number;
     }
 }

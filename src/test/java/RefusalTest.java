@@ -58,6 +58,7 @@ public final class RefusalTest {
         wrongNumbers(all, "swim", new int[] {0, 9, 50, 9, 1},
                 new int[][] {{0, 4}, {0, 239}, {0, 119}, {0, 47}, {0, 7}});
         wrongNumbers(all, "ended", new int[] {0}, new int[][] {{0, 4}});
+        wrongNumbers(all, "where", new int[] {0}, new int[][] {{0, 100}});
         wrongNumbers(all, "best", new int[] {0, 9, 50}, new int[][] {{0, 4}, {0, 239}, {0, 119}});
         wrongNumbers(all, "ends", new int[] {0, 9, 50, 0},
                 new int[][] {{0, 4}, {0, 239}, {0, 119}, {0, 3}});
@@ -98,10 +99,10 @@ public final class RefusalTest {
                 new Refused("carries", Check.THREW_ARGUMENT, 0, 0, 200, 0),
                 new Refused("carries", Check.THREW_ARGUMENT, 0, 120, 0, 0),
                 new Refused("swim", -4, 1, 5, 115, 0, 0), new Refused("best", -4, 1, 5, 115),
-                new Refused("ends", -4, 1, 5, 115, 0), new Refused("where", -1, -1),
-                new Refused("where", -3, 100), new Refused("order", -1, 0x1),
-                new Refused("order", -1, 0x1234561), new Refused("order", -1, 0x121),
-                new Refused("order", -1, 0x60F), new Refused("calm", -1, 16, true),
+                new Refused("ends", -4, 1, 5, 115, 0), new Refused("where", -3, 100),
+                new Refused("order", -1, 0x1), new Refused("order", -1, 0x1234561),
+                new Refused("order", -1, 0x121), new Refused("order", -1, 0x60F),
+                new Refused("calm", -1, 16, true),
                 new Refused("calm", -1, -1, true), new Refused("keep", -1, 0, 2, 0),
                 new Refused("make", -1, 0, 3, 61), new Refused("make", -1, 0, 2, 1),
                 new Refused("make", -1, 8, 3, 1), new Refused("make", -14, 0, 3, -1),
@@ -125,6 +126,7 @@ public final class RefusalTest {
 
     private static List<Refused> ahead() {
         return List.of(new Refused("ended", -3, 0), new Refused("where", -3, 0),
+                new Refused("where", -3, 100), new Refused("where", -1, 101),
                 new Refused("near", -1, 0), new Refused("lanes", -3), new Refused("voided", -3),
                 new Refused("swim", -1, 0, 0, 0, 0, 0), new Refused("turn", -1, 0));
     }

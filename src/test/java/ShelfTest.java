@@ -190,14 +190,37 @@ public final class ShelfTest {
             s.keep(i, 1, i);
         }
         Check.due("of a PLAIN one", s.toss(0), -15);
-        for (int kind = 1; kind < 4; kind++) {
-            Check.due("of KIND " + kind, s.toss(kind), kind);
-            Check.due("once more", s.toss(kind), kind);
+        for (int i = 1; i < 4; i++) {
+            Check.due("of SWIMMER " + i, s.toss(i), i);
+            Check.due("once more", s.toss(i), i);
         }
         s.make(4, 4, 1);
         Check.due("of a ROW", s.toss(4), -12);
         Check.due("of nothing", s.toss(5), -11);
         Check.due("SHELF -1", s.toss(-1), -1);
         Check.due("SHELF 8", s.toss(8), -1);
+        numbersOfPromise35();
+    }
+
+    /** Each KIND with numbers that are neither its own, nor those of the SHELVES. */
+    private static void numbersOfPromise35() {
+        int[] kinds = {3, 2, 1, 0, 2, 1, 3, 3, 2, 1};
+        StraitSwim s = new StraitSwim();
+        for (int kind : kinds) {
+            s.swimmer(kind, 7, 30);
+        }
+        for (int number = 0; number < kinds.length; number++) {
+            int shelf = (number + 5) % 8;
+            s.keep(shelf, 1, number);
+            Check.due("SWIMMER " + number + " of KIND " + kinds[number], s.toss(shelf),
+                    kinds[number] == 0 ? -15 : number);
+        }
+        s.feed(9, 3);
+        s.swim(0, 5, 5, 0, 0);
+        Check.due("still its own number", s.toss(6), 9);
+        s.keep(6, 1, 9);
+        Check.due("kept anew", s.toss(6), 9);
+        s.keep(6, 1, 0);
+        Check.due("the one that came first", s.toss(6), 0);
     }
 }

@@ -207,19 +207,39 @@ public final class SwimTest {
     private static void promise12() {
         StraitSwim s = new StraitSwim();
         Check.due("ahead of any", s.where(0), -3);
-        Check.due("ahead of any, -1", s.where(-1), -1);
+        Check.due("ahead of any, t 100", s.where(100), -3);
+        outOfPromise12("ahead of any", s);
         s.swimmer(0, 10, 11);
         s.swim(0, 200, 20, 0, 0);
         Check.due("at first", s.where(0), 200020);
         Check.due("then", s.where(2), 220020);
         Check.due("at its end", s.where(3), 230020);
         Check.due("behind it", s.where(4), -3);
-        Check.due("far behind it", s.where(Integer.MAX_VALUE), -3);
-        Check.due("t -1", s.where(-1), -1);
+        Check.due("far behind it", s.where(100), -3);
+        outOfPromise12("behind a short one", s);
         s.swim(0, 239, 20, 0, 0);
         Check.due("DRIFTED: ahead of it", s.where(0), 239020);
         Check.due("DRIFTED: at its end", s.where(1), 239020);
         Check.due("DRIFTED: behind it", s.where(2), -3);
+        longestOfPromise12();
+    }
+
+    private static void longestOfPromise12() {
+        StraitSwim s = new StraitSwim();
+        s.set(0, 0);
+        s.swimmer(3, 1, 400);
+        s.feed(0, 1);
+        Check.due("LOST", s.swim(0, 100, 50, 0, 0), 3);
+        Check.due("ahead of its last quarter", s.where(99), 100050);
+        Check.due("at the end of 100 quarters", s.where(100), 100050);
+        outOfPromise12("behind the longest", s);
+    }
+
+    /** No SWIM has over 100 quarters, so that beyond them a number is out of range. */
+    private static void outOfPromise12(String when, StraitSwim s) {
+        for (int t : new int[] {Integer.MIN_VALUE, -1, 101, 102, 1000, Integer.MAX_VALUE}) {
+            Check.due(when + ", where(" + t + ")", s.where(t), -1);
+        }
     }
 
     private static void promise13() {
