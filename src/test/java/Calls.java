@@ -1,5 +1,6 @@
 import java.lang.reflect.InvocationTargetException;
 import java.lang.reflect.Method;
+import java.util.HashMap;
 import java.util.Map;
 import java.util.Random;
 import java.util.TreeMap;
@@ -58,6 +59,7 @@ final class Calls {
     }
 
     private static final Map<String, Class<?>[]> TYPES = new TreeMap<>();
+    private static final Map<String, Method> METHODS = new HashMap<>();
 
     static {
         for (Method m : StraitSwim.class.getDeclaredMethods()) {
@@ -124,11 +126,20 @@ final class Calls {
         return digits;
     }
 
+    private static Method method(Class<?> of, String name) throws NoSuchMethodException {
+        String key = of.getName() + "." + name;
+        Method known = METHODS.get(key);
+        if (known == null) {
+            known = of.getMethod(name, TYPES.get(name));
+            METHODS.put(key, known);
+        }
+        return known;
+    }
+
     /** The answer; the two exceptions of the face as Check's numbers. Any other ends the test. */
     static long answer(Object of, Call call) {
         try {
-            Method m = of.getClass().getMethod(call.name, TYPES.get(call.name));
-            return ((Number) m.invoke(of, call.args)).longValue();
+            return ((Number) method(of.getClass(), call.name).invoke(of, call.args)).longValue();
         } catch (InvocationTargetException e) {
             if (e.getCause().getClass() == IllegalArgumentException.class) {
                 return Check.THREW_ARGUMENT;

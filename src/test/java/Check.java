@@ -1,20 +1,38 @@
-/** What every test of the project shares: it prints each wrong answer and counts them. */
+/**
+ * What every test of the project shares: it prints each wrong answer and counts them. A test of a
+ * sentence names it first, with terms() or promise(), and what is asked then is asked for it.
+ */
 final class Check {
     /** Stands for an exception where answers are compared as numbers. */
     static final long THREW_ARGUMENT = Long.MIN_VALUE;
     static final long THREW_STATE = Long.MIN_VALUE + 1;
 
+    private static String about = "";
     private static int asked = 0;
     private static int wrong = 0;
 
     private Check() {
     }
 
+    /** A sentence of the document's Terms, in its own words. */
+    static void terms(String words) {
+        about = "";
+        holds("the Terms say: " + words, Doc.terms().contains(words));
+        about = "[" + words + "] ";
+    }
+
+    /** A sentence of a promise, in its own words. */
+    static void promise(int number, String words) {
+        about = "";
+        holds("promise " + number + " says: " + words, Doc.promise(number).contains(words));
+        about = "[promise " + number + ": " + words + "] ";
+    }
+
     static void due(String what, long got, long want) {
         asked++;
         if (got != want) {
             wrong++;
-            System.out.println(what + " answered " + got + ", due is " + want);
+            System.out.println(about + what + " answered " + got + ", due is " + want);
         }
     }
 
@@ -22,7 +40,7 @@ final class Check {
         asked++;
         if (!is) {
             wrong++;
-            System.out.println("does not hold: " + what);
+            System.out.println(about + "does not hold: " + what);
         }
     }
 

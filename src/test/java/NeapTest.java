@@ -11,10 +11,7 @@ public final class NeapTest {
     }
 
     private static StraitSwim withSwimmers(int many, int... calmDays) {
-        StraitSwim s = new StraitSwim();
-        for (int i = 0; i < many; i++) {
-            s.swimmer(0, 1, 1);
-        }
+        StraitSwim s = Made.withSwimmers(many);
         for (int day : calmDays) {
             s.calm(day, true);
         }

@@ -6,7 +6,7 @@ import java.util.TreeMap;
 /** All promises: random runs of calls, each answer compared with the Model's. */
 public final class RandomRunsTest {
     private static final int RUNS = 600;
-    private static final int CALLS = 400;
+    private static final int CALLS = 512;
     private static final Map<String, Map<Long, Integer>> SEEN = new TreeMap<>();
 
     public static void main(String[] args) {

@@ -15,16 +15,8 @@ public final class ShelfTest {
         Check.finish();
     }
 
-    private static StraitSwim withKinds() {
-        StraitSwim s = new StraitSwim();
-        for (int kind = 0; kind < 4; kind++) {
-            s.swimmer(kind, 20, 400);
-        }
-        return s;
-    }
-
     private static void promise30() {
-        StraitSwim s = withKinds();
+        StraitSwim s = Made.withKinds(20, 400);
         Check.due("SHELF -1", s.keep(-1, 0, 0), -1);
         Check.due("SHELF 8", s.keep(8, 0, 0), -1);
         Check.due("what -1", s.keep(0, -1, 0), -1);
@@ -55,7 +47,7 @@ public final class ShelfTest {
     }
 
     private static void swimOfPromise30() {
-        StraitSwim s = withKinds();
+        StraitSwim s = Made.withKinds(20, 400);
         Check.due("no SWIM", s.keep(0, 3, 0), 0);
         Check.due("of length 0", Check.element(s, 0, 0), NO_ELEMENT);
         Check.due("is a ROW all the same", s.weight(0), -12);
@@ -82,7 +74,7 @@ public final class ShelfTest {
     }
 
     private static void promise31() {
-        StraitSwim s = withKinds();
+        StraitSwim s = Made.withKinds(20, 400);
         Check.due("60 shorts", s.make(0, 3, 60), 0);
         Check.due("all 0", Check.element(s, 0, 59), 0);
         Check.due("none beyond", Check.element(s, 0, 60), NO_ELEMENT);
@@ -102,7 +94,7 @@ public final class ShelfTest {
     }
 
     private static void promise32() {
-        StraitSwim s = withKinds();
+        StraitSwim s = Made.withKinds(20, 400);
         Check.due("SHELF -1", Check.element(s, -1, 0), NO_SHELF);
         Check.due("SHELF 8", Check.element(s, 8, 0), NO_SHELF);
         Check.due("nothing is held", Check.element(s, 0, 0), NO_ELEMENT);
@@ -117,7 +109,7 @@ public final class ShelfTest {
     }
 
     private static void promise33() {
-        StraitSwim s = withKinds();
+        StraitSwim s = Made.withKinds(20, 400);
         s.make(0, 4, 3);
         s.make(1, 3, 3);
         s.keep(2, 1, 0);
@@ -168,7 +160,7 @@ public final class ShelfTest {
     }
 
     private static void promise34() {
-        StraitSwim s = withKinds();
+        StraitSwim s = Made.withKinds(20, 400);
         for (int i = 0; i < 4; i++) {
             s.feed(i, 7);
             s.keep(i, 1, i);
@@ -185,7 +177,7 @@ public final class ShelfTest {
     }
 
     private static void promise35() {
-        StraitSwim s = withKinds();
+        StraitSwim s = Made.withKinds(20, 400);
         for (int i = 0; i < 4; i++) {
             s.keep(i, 1, i);
         }

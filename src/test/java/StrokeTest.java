@@ -11,22 +11,6 @@ public final class StrokeTest {
         Check.finish();
     }
 
-    private static StraitSwim counted(int... counts) {
-        StraitSwim s = new StraitSwim();
-        for (int n : counts) {
-            s.stroke(n);
-        }
-        return s;
-    }
-
-    private static StraitSwim withSwimmers(int many) {
-        StraitSwim s = new StraitSwim();
-        for (int i = 0; i < many; i++) {
-            s.swimmer(0, 1, 1);
-        }
-        return s;
-    }
-
     private static void promise18() {
         StraitSwim s = new StraitSwim();
         Check.due("count -1", s.stroke(-1), -1);
@@ -40,7 +24,7 @@ public final class StrokeTest {
     }
 
     private static void promise19() {
-        StraitSwim s = counted(1, 2, 3);
+        StraitSwim s = Made.counted(1, 2, 3);
         Check.due("all go", s.strokes(), 3);
         Check.due("none are there", s.strokes(), 0);
         Check.due("counts", s.count(3), 0);
@@ -49,7 +33,7 @@ public final class StrokeTest {
     }
 
     private static void promise20() {
-        StraitSwim s = counted(50, 40, 60, 40, 39, 38, 70);
+        StraitSwim s = Made.counted(50, 40, 60, 40, 39, 38, 70);
         Check.due("a run of 1", s.stop(41, 1), 1);
         Check.due("a run that is broken", s.stop(41, 2), 4);
         Check.due("a run of 3", s.stop(41, 3), 5);
@@ -68,7 +52,7 @@ public final class StrokeTest {
     }
 
     private static void promise21() {
-        StraitSwim s = counted(50, 40, 60, 40, 39, 38, 70);
+        StraitSwim s = Made.counted(50, 40, 60, 40, 39, 38, 70);
         Check.due("k 1", s.floor(1), 39);
         Check.due("k 2", s.floor(2), 40);
         Check.due("k 3", s.floor(3), 41);
@@ -77,15 +61,15 @@ public final class StrokeTest {
         Check.due("k 8", s.floor(8), -4);
         Check.due("k 0", s.floor(0), -1);
         Check.due("k 11", s.floor(11), -1);
-        Check.due("a count of 0", counted(0).floor(1), 1);
-        Check.due("a count of 98", counted(98).floor(1), 99);
-        Check.due("a count of 99", counted(99).floor(1), -4);
+        Check.due("a count of 0", Made.counted(0).floor(1), 1);
+        Check.due("a count of 98", Made.counted(98).floor(1), 99);
+        Check.due("a count of 99", Made.counted(99).floor(1), -4);
         Check.due("no counts", new StraitSwim().floor(1), -4);
-        Check.due("ten counts", counted(1, 2, 3, 4, 5, 6, 7, 8, 9, 10).floor(10), 11);
+        Check.due("ten counts", Made.counted(1, 2, 3, 4, 5, 6, 7, 8, 9, 10).floor(10), 11);
     }
 
     private static void promise22() {
-        StraitSwim s = withSwimmers(10);
+        StraitSwim s = Made.withSwimmers(10);
         Check.due("two", s.order(0x21), 2);
         Check.due("six", s.order(0x6A5231), 6);
         Check.due("one", s.order(0x1), -1);
@@ -103,11 +87,11 @@ public final class StrokeTest {
         Check.due("turns", s.count(4), 1);
         Check.due("an order takes turns off", s.order(0xA9), 2);
         Check.due("no turns", s.count(4), 0);
-        Check.due("no SWIMMER of these", withSwimmers(1).order(0x21), -1);
+        Check.due("no SWIMMER of these", Made.withSwimmers(1).order(0x21), -1);
     }
 
     private static void promise23() {
-        StraitSwim s = withSwimmers(3);
+        StraitSwim s = Made.withSwimmers(3);
         Check.due("no ORDER", s.turn(0), -3);
         Check.due("no ORDER, no SWIMMER", s.turn(3), -1);
         s.order(0x21);
@@ -122,7 +106,7 @@ public final class StrokeTest {
     }
 
     private static void promise24() {
-        StraitSwim s = withSwimmers(4);
+        StraitSwim s = Made.withSwimmers(4);
         Check.due("no ORDER", s.voided(), -3);
         s.order(0x132);
         Check.due("no turns", s.voided(), -4);
