@@ -55,13 +55,13 @@ enum History {
         for (int i = 0; i < many; i++) {
             call("swimmer", i % 4, 5 + i, 100 + i);
             call("feed", i, i);
-            call("slot", i, i % 2, 1 + i % 4, 7 << i);
+            call("slot", i, i % 2, 1 + i % 4, 65535 - (1 << i));
         }
     }
 
     private void rows(boolean full) {
         for (int i = 0; i < (full ? 8 : 2); i++) {
-            call("ship", 100 + i, 10 * i, -3, i);
+            call("ship", 100 + 10 * i, 10 * i, -3, 7 - i);
         }
         for (int i = 0; i < (full ? 60 : 3); i++) {
             call("stroke", 90 - i);
@@ -140,6 +140,18 @@ enum History {
         }
         answers.add((long) s.set(0, 0));
         answers.add((long) s.set(1, 1));
+        ships(s, answers);
+    }
+
+    /** From SWIMS all over the strait, so that another place or move of one SHIP would be seen. */
+    private static void ships(StraitSwim s, List<Long> answers) {
+        s.set(1, 40);
+        for (int at = 0; at < 9; at++) {
+            answers.add((long) s.swim(0, 20 + at % 3 * 100, 15 + at / 3 * 40, 0, at % 8));
+            for (int ship = 0; ship < 8; ship++) {
+                answers.add((long) s.near(ship));
+            }
+        }
     }
 
     private static void swimmers(StraitSwim s, List<Long> answers) {

@@ -265,12 +265,12 @@ public final class NeapEdgeTest {
         for (History h : new History[] {History.SOME, History.FULL}) {
             h.refuses(-1, "slot", -1, 0, 1, 1);
             h.refuses(-1, "slot", h == History.SOME ? 5 : 10, 0, 1, 1);
-            h.refuses(-1, "slot", 0, -1, 1, 1);
-            h.refuses(-1, "slot", 0, 4, 1, 1);
-            h.refuses(-1, "slot", 0, 0, 0, 1);
-            h.refuses(-1, "slot", 0, 0, 5, 1);
-            h.refuses(-1, "slot", 0, 0, 1, -1);
-            h.refuses(-1, "slot", 0, 0, 1, 65536);
+            h.refuses(-1, "slot", 2, -1, 1, 65535);
+            h.refuses(-1, "slot", 2, 4, 1, 65535);
+            h.refuses(-1, "slot", 2, 3, 0, 65535);
+            h.refuses(-1, "slot", 2, 3, 5, 65535);
+            h.refuses(-1, "slot", 2, 3, 1, -1);
+            h.refuses(-1, "slot", 2, 3, 1, 65536);
         }
         History.NEW.refuses(-1, "slot", 0, 0, 1, 1);
     }

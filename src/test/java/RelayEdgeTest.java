@@ -79,7 +79,7 @@ public final class RelayEdgeTest {
             StraitSwim s = Made.withSwimmers(3);
             s.order(0x21);
             for (int i = 0; i < 40; i++) {
-                s.turn(i == first ? 2 : i % 2);
+                Check.due("turns go on", s.turn(i == first ? 2 : i % 2), i + 1);
                 Check.due("turn " + i + ", wrong at " + first, s.voided(),
                         i < first ? -4 : first);
             }
