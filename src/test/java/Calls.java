@@ -98,7 +98,8 @@ final class Calls {
 
     private static int number(Random random, int least, int most, int wrongInHundred) {
         if (random.nextInt(100) < wrongInHundred) {
-            int[] wrong = {least - 1, most + 1, -1, Integer.MIN_VALUE, Integer.MAX_VALUE, most + 40};
+            int[] wrong = {
+                least - 1, most + 1, -1, Integer.MIN_VALUE, Integer.MAX_VALUE, most + 40};
             return wrong[random.nextInt(wrong.length)];
         }
         int at = random.nextInt(12);

@@ -1,5 +1,6 @@
 import java.io.IOException;
 import java.lang.reflect.Constructor;
+import java.lang.reflect.Executable;
 import java.lang.reflect.Field;
 import java.lang.reflect.Method;
 import java.lang.reflect.Modifier;
@@ -10,54 +11,79 @@ import java.util.TreeSet;
 
 /** The public face is the document's, and what LANGUAGE.md says of names, fields and classes. */
 public final class FaceTest {
-    private static final String[] FACE = {
-        "int land(int,int,int,boolean)", "int isLand(int,int)", "int tide(int,int,int,int)",
-        "long carries(int,int,int,int)", "int set(int,int)", "int swimmer(int,int,int)",
-        "int feed(int,int)", "int pace(int,int,int)", "int swim(int,int,int,int,int)",
-        "int ended(int)", "int where(int)", "int best(int,int,int)", "int ends(int,int,int,int)",
-        "int ship(int,int,int,int)", "int near(int)", "int lanes()", "int stroke(int)",
-        "int strokes()", "int stop(int,int)", "int floor(int)", "int order(int)", "int turn(int)",
-        "int voided()", "int calm(int,boolean)", "int slot(int,int,int,int)", "int done()",
-        "int goes(int,int)", "int count(int)", "int keep(int,int,int)", "int make(int,int,int)",
-        "long element(int,int)", "int copy(int,int,int,int,int)", "int weight(int)",
-        "int toss(int)"};
+    private static final String CLASS = "public final class StraitSwim {";
 
     public static void main(String[] args) throws IOException {
         face();
         language();
-        source();
+        String text = Files.readString(Path.of("src/main/java/StraitSwim.java"));
+        order(text);
+        source(text);
         Check.finish();
     }
 
-    private static String signature(Method m) {
-        StringBuilder text = new StringBuilder(m.getReturnType() + " " + m.getName() + "(");
-        for (int i = 0; i < m.getParameterCount(); i++) {
-            text.append(i == 0 ? "" : ",").append(m.getParameterTypes()[i]);
+    /** As a line of the document's face, but that reflection has no names of parameters. */
+    private static String signature(Executable call, String answer) {
+        StringBuilder text = new StringBuilder(answer).append("(");
+        for (int i = 0; i < call.getParameterCount(); i++) {
+            text.append(i == 0 ? "" : ", ").append(call.getParameterTypes()[i]);
         }
-        return text.append(")").toString();
+        text.append(")");
+        for (int i = 0; i < call.getExceptionTypes().length; i++) {
+            text.append(i == 0 ? " throws " : ", ")
+                    .append(call.getExceptionTypes()[i].getSimpleName());
+        }
+        return text.toString();
     }
 
     private static void face() {
-        Set<String> want = new TreeSet<>(Set.of(FACE));
+        Set<String> want = new TreeSet<>();
+        for (String line : Doc.face()) {
+            want.add(line.replaceAll("(int|boolean) \\w+([,)])", "$1$2"));
+        }
+        Check.due("a constructor and 34 calls", want.size(), Doc.PROMISES);
         Set<String> got = new TreeSet<>();
         for (Method m : StraitSwim.class.getDeclaredMethods()) {
             if (!Modifier.isPrivate(m.getModifiers()) && !m.isSynthetic()) {
-                got.add(signature(m));
+                got.add(signature(m, "public " + m.getReturnType() + " " + m.getName()));
                 Check.holds("public alone: " + m, m.getModifiers() == Modifier.PUBLIC);
             }
         }
-        Check.holds("the calls of the face, not " + got, got.equals(want));
+        for (Constructor<?> made : StraitSwim.class.getDeclaredConstructors()) {
+            got.add(signature(made, "public " + made.getName()));
+            Check.holds("public alone: " + made, made.getModifiers() == Modifier.PUBLIC);
+        }
+        Check.holds("the document's face, " + want + ", not " + got, got.equals(want));
         Check.holds("a public final class",
                 StraitSwim.class.getModifiers() == (Modifier.PUBLIC | Modifier.FINAL));
-        Constructor<?>[] made = StraitSwim.class.getDeclaredConstructors();
-        Check.holds("one public constructor", made.length == 1
-                && made[0].getModifiers() == Modifier.PUBLIC && made[0].getParameterCount() == 0);
+    }
+
+    /** Names of parameters too, in the document's order and under its headings. */
+    private static void order(String text) {
+        Check.holds(CLASS, text.contains("\n" + CLASS + "\n"));
+        int at = text.indexOf(CLASS);
+        for (String line : Doc.face()) {
+            int next = text.indexOf("\n    " + line + " {", at);
+            Check.holds("in the document's order: " + line, next > at);
+            at = Math.max(at, next);
+        }
+        Check.due("headings", Doc.headings().size(), 4);
+        for (String sentence : Doc.headings()) {
+            String heading = sentence.substring(sentence.indexOf("----"), sentence.length() - 1);
+            String[] parts = sentence.split("`");
+            for (int i = 1; i < parts.length; i += 2) {
+                String ahead = text.split("\n    public \\w+ " + parts[i] + "\\(")[0];
+                Check.holds(parts[i] + " under " + heading, ahead.startsWith(
+                        "// " + heading + "\n", Math.max(0, ahead.lastIndexOf("// ----"))));
+            }
+        }
     }
 
     private static void language() {
         Set<String> faceNames = new TreeSet<>();
-        for (String call : FACE) {
-            faceNames.add(call.substring(call.indexOf(' ') + 1, call.indexOf('(')));
+        for (String line : Doc.face()) {
+            faceNames.add(line.substring(line.lastIndexOf(' ', line.indexOf('(')) + 1,
+                    line.indexOf('(')));
         }
         for (Method m : StraitSwim.class.getDeclaredMethods()) {
             if (Modifier.isPrivate(m.getModifiers())) {
@@ -91,8 +117,7 @@ public final class FaceTest {
         Check.holds("rule 11, twenty fields: " + c, own <= 20);
     }
 
-    private static void source() throws IOException {
-        String text = Files.readString(Path.of("src/main/java/StraitSwim.java"));
+    private static void source(String text) {
         String[] never = {"finally", "assert ", "synchronized", "->", "::", "getMessage", "Exact(",
             "System.out", "currentTimeMillis", "nanoTime", "Random", "ArrayIndexOutOfBounds",
             "NullPointer", "ClassCast", "NegativeArraySize", "ArrayStore", "catch (Exception",

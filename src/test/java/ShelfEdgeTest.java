@@ -363,7 +363,8 @@ public final class ShelfEdgeTest {
         int[][] beyond = {{0, 0, 4}, {0, 0, 5}, {1, 0, 3}, {3, 0, 1}, {4, 0, 0}, {0, 3, 3},
             {0, 5, 1}, {0, 6, 0}, {-1, 0, 1}, {0, -1, 1}, {0, 0, -1}, {-1, 0, 0}, {0, -1, 0},
             {max, 0, 0}, {0, max, 0}, {0, 0, max}, {max, 0, max}, {0, max, max}, {max, max, max},
-            {1, 0, max}, {0, 1, max}, {1, 1, max}, {min, 0, 0}, {0, min, 0}, {0, 0, min}, {max, max, min},
+            {1, 0, max}, {0, 1, max}, {1, 1, max}, {min, 0, 0}, {0, min, 0}, {0, 0, min},
+            {max, max, min},
             {min, min, max}};
         for (int[] b : beyond) {
             StraitSwim s = History.SOME.made();

@@ -26,7 +26,7 @@ public final class StraitEdgeTest {
     }
 
     private static void places() {
-        Check.terms("239, y 0 .. 119, of CELLS of 10 by 10");
+        Check.terms("PLACES are in tenths: x 0 .. 239, y 0 .. 119, of CELLS of 10 by 10");
         Edges.within(0, 239, 0, "isLand", 9, 50);
         Edges.within(0, 119, 1, "isLand", 9, 50);
         Edges.within(0, 239, 0, "carries", 9, 50, 0, 0);

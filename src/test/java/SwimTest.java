@@ -172,7 +172,7 @@ public final class SwimTest {
         return cold;
     }
 
-    /** CHILL 0 and a feed in each quarter: COLD reaches what it is at the end in the last quarter. */
+    /** CHILL 0 and a feed in each quarter: COLD is what it is at the end in the last quarter. */
     private static int pulledInLast(StraitSwim s) {
         int limit = coldOfFeeds();
         int who = s.swimmer(0, 1, limit);
