@@ -8,6 +8,8 @@ import java.nio.file.Files;
 import java.nio.file.Path;
 import java.util.Set;
 import java.util.TreeSet;
+import java.util.regex.Matcher;
+import java.util.regex.Pattern;
 
 /** The public face is the document's, and what LANGUAGE.md says of names, fields and classes. */
 public final class FaceTest {
@@ -125,6 +127,37 @@ public final class FaceTest {
             "catch (IndexOutOfBounds", "\nimport java.io", "\nimport java.util.*", "\npackage "};
         for (String word : never) {
             Check.holds("not in the source: " + word.trim(), !text.contains(word));
+        }
+        found(text, "\nimport (.+);", "rule 4, imported", "java.util.Arrays");
+        found(text, "\\b((?:Math|Integer|Long|Arrays|System|String|List)\\.\\w+)",
+                "rule 4, of the library", "Arrays.fill", "Integer.bitCount", "Math.abs",
+                "Math.max", "System.arraycopy");
+        found(text, "throw (.+?\\()", "rule 6, thrown", "new IllegalArgumentException(",
+                "new IllegalStateException(");
+        found(text, "catch \\((.+?)\\)", "rule 6, caught", "IllegalStateException e");
+        lengths(text);
+    }
+
+    /** What the pattern finds in the source is one of these each time. */
+    private static void found(String text, String pattern, String what, String... allowed) {
+        Matcher matcher = Pattern.compile(pattern).matcher(text);
+        while (matcher.find()) {
+            Check.holds(what + ": " + matcher.group(1),
+                    Set.of(allowed).contains(matcher.group(1)));
+        }
+    }
+
+    private static void lengths(String text) {
+        String[] lines = text.split("\n");
+        for (int start = 0; start < lines.length; start++) {
+            if (lines[start].matches(" {4,8}[a-zA-Z].*\\(.*") && !lines[start].endsWith(";")) {
+                String margin = lines[start].replaceAll("\\S.*", "");
+                int end = start;
+                while (end < lines.length && !lines[end].equals(margin + "}")) {
+                    end++;
+                }
+                Check.holds("rule 11, sixty lines: " + lines[start], end - start < 60);
+            }
         }
     }
 }
